@@ -473,13 +473,19 @@ public final class SharerHome {
 
         private void finish(int line) {
             int old = values[line];
-            if (operation != LOADING) {
-                values[line] = operation == STORING ? operand : old + operand;
-                states[line] = OWN;
-            }
             latestResult = operation == STORING ? operand : old;
+            if (operation != LOADING) {
+                change(line, operation == STORING ? operand : old + operand);
+            }
             finished++;
             waiting = false;
+        }
+
+        private void change(int line, int newValue) {
+            values[line] = newValue;
+            if (states[line] == SOLE) {
+                states[line] = OWN;
+            }
         }
     }
 

@@ -20,6 +20,10 @@ public final class PromisesTest {
         leaveWhileWaiting();
         deliver();
         deliverKeepsBack();
+        deliverStalls();
+        deliverKeepsBackForwards();
+        deliverKeepsNoOtherBack();
+        keptBackOnlyOnItsLine();
         message();
         carried();
         state();
@@ -165,6 +169,7 @@ public final class PromisesTest {
         is("3: from the core", x.message(0, 2), 3);
         is("3: to the home", x.message(0, 3), 4);
         is("3: for the core", x.message(0, 4), 3);
+        is("3: number", x.message(0, 5), 0);
         is("3: v is not sent", x.carried(0), 0);
         is("3: no result before it is done", x.result(3), 0);
         x.run(64);
@@ -256,6 +261,7 @@ public final class PromisesTest {
         is("5: from the core", x.message(0, 2), 1);
         is("5: to the home", x.message(0, 3), 4);
         is("5: for the core", x.message(0, 4), 1);
+        is("5: number", x.message(0, 5), 0);
         is("5: with its value", x.carried(0), 77);
         x.run(64);
         is("5: memory", x.memory(1), 77);
@@ -330,7 +336,6 @@ public final class PromisesTest {
     private static void deliverKeepsBack() {
         SharerHome x = allShare(1, 8);
         x.leave(2, 1);
-        x.leave(2, 1);
         x.store(0, 1, 3);
         is("6: WRITE before LEAVE_SHARED", x.deliver(1), 2);
         is("6: LEAVE_SHARED", x.deliver(0), 2);
@@ -345,17 +350,90 @@ public final class PromisesTest {
         is("6: state 12", x.state(2, 1), 12);
         is("6: LEFT is free then", x.deliver(2), 2);
         is("6: state 0", x.state(2, 1), 0);
+    }
+
+    private static void deliverStalls() {
+        SharerHome x = new SharerHome();
+        x.load(0, 0);
+        x.deliver(0);
+        x.load(1, 0);
+        x.deliver(1);
+        is("6: FORWARD_READ is the second one", x.message(1, 0), 5);
+        String before = shown(x);
+        is("6: it stalls before the data came", x.deliver(1), 1);
+        unchanged("6: a message that stalls", x, before);
+        is("6: the data came", x.deliver(0), 2);
+        is("6: it doesn't stall then", x.deliver(0), 2);
+    }
+
+    private static void deliverKeepsBackForwards() {
+        SharerHome x = new SharerHome();
+        x.store(0, 0, 5);
+        x.run(64);
+        x.load(1, 0);
+        x.run(64);
+        x.store(0, 0, 6);
+        x.store(1, 0, 7);
+        x.load(2, 0);
+        is("6: WRITE of core 1", x.deliver(1), 2);
+        is("6: WRITE of core 0", x.deliver(0), 2);
+        is("6: READ of core 2", x.deliver(0), 2);
+        // DATA to 1, DROP to 0, FORWARD_WRITE to 1, FORWARD_READ to 0.
+        is("6: DROP to core 0", x.message(1, 0), 7);
+        is("6: FORWARD_READ to core 0", x.message(3, 0), 5);
+        is("6: FORWARD_READ is kept back by DROP, before it could stall", x.deliver(3), 0);
+        is("6: FORWARD_WRITE to another core is not, it stalls", x.deliver(2), 1);
+        is("6: DROP", x.deliver(1), 2);
+        is("6: FORWARD_READ stalls then", x.deliver(2), 1);
+        x.run(64);
+        is("6: core 2 has read", x.result(2), 6);
+    }
+
+    private static void deliverKeepsNoOtherBack() {
+        SharerHome x = new SharerHome();
+        x.store(0, 0, 5);
+        x.store(1, 1, 5);
+        x.run(64);
+        x.load(2, 0);
+        x.deliver(0);
+        x.leave(0, 0);
+        x.deliver(1);
+        is("6: LEFT is kept back by FORWARD_READ", x.deliver(1), 0);
+        x.leave(1, 1);
+        x.deliver(2);
+        is("6: LEFT of another line to another core is not", x.deliver(2), 2);
         SharerHome y = new SharerHome();
-        y.load(0, 0);
+        y.store(0, 0, 5);
+        y.run(64);
+        y.store(1, 0, 6);
         y.deliver(0);
-        y.load(1, 0);
+        y.leave(0, 0);
+        y.deliver(0);
         y.deliver(1);
-        is("6: FORWARD_READ is the second one", y.message(1, 0), 5);
-        before = shown(y);
-        is("6: it stalls before the data came", y.deliver(1), 1);
-        unchanged("6: a message that stalls", y, before);
-        is("6: the data came", y.deliver(0), 2);
-        is("6: it doesn't stall then", y.deliver(0), 2);
+        y.leave(1, 0);
+        is("6: LEAVE_OWN of core 0", y.message(0, 0), 4);
+        is("6: LEAVE_OWN of core 1", y.message(1, 0), 4);
+        is("6: the home takes the younger one first", y.deliver(1), 2);
+        is("6: memory", y.memory(0), 6);
+        is("6: and the older one", y.deliver(0), 2);
+        is("6: memory stays", y.memory(0), 6);
+    }
+
+    private static void keptBackOnlyOnItsLine() {
+        SharerHome x = new SharerHome();
+        x.store(0, 0, 5);
+        x.store(1, 1, 6);
+        x.run(64);
+        x.store(0, 1, 7);
+        x.run(64);
+        x.load(1, 0);
+        x.load(2, 1);
+        x.deliver(0);
+        x.deliver(0);
+        is("6: FORWARD_READ of line 0 to core 0", x.message(0, 1), 0);
+        is("6: FORWARD_READ of line 1 to core 0", x.message(1, 1), 1);
+        is("6: to the same core", x.message(1, 3), 0);
+        is("6: another line's message keeps nothing back", x.deliver(1), 2);
     }
 
     private static void message() {
