@@ -48,30 +48,8 @@ public final class PromisesTest {
         CHECK.due(call, got, want);
     }
 
-    /** Everything that the program shows, as one text: two equal texts mean that a call changed nothing. */
-    private static String shown(SharerHome x) {
-        StringBuilder text = new StringBuilder();
-        for (int k = 0; k < x.message(COUNT, 0); k++) {
-            for (int what = 0; what < 6; what++) {
-                text.append(x.message(k, what)).append(' ');
-            }
-            text.append(x.carried(k)).append(';');
-        }
-        for (int core = 0; core < 4; core++) {
-            text.append(x.waits(core)).append(x.done(core)).append(' ').append(x.result(core)).append(';');
-            for (int line = 0; line < 4; line++) {
-                text.append(x.state(core, line)).append(' ').append(x.value(core, line)).append(' ');
-                text.append(x.due(core, line)).append(' ').append(x.tally(core, line)).append(';');
-            }
-        }
-        for (int line = 0; line < 4; line++) {
-            text.append(x.home(line)).append(' ').append(x.memory(line)).append(';');
-        }
-        return text.toString();
-    }
-
     private static void unchanged(String call, SharerHome x, String before) {
-        if (!shown(x).equals(before)) {
+        if (!Scenes.shown(x).equals(before)) {
             CHECK.fault(call + " changed something");
         }
     }
@@ -79,17 +57,8 @@ public final class PromisesTest {
     /** All four cores have a line SHARED; its value is v, stored by core 0. */
     private static SharerHome allShare(int line, int v) {
         SharerHome x = new SharerHome();
-        share(x, line, v);
+        Scenes.share(x, line, v, 4);
         return x;
-    }
-
-    private static void share(SharerHome x, int line, int v) {
-        x.store(0, line, v);
-        x.run(64);
-        for (int core = 1; core < 4; core++) {
-            x.load(core, line);
-            x.run(64);
-        }
     }
 
     private static void newObject() {
@@ -148,7 +117,7 @@ public final class PromisesTest {
     private static void loadIsBusy() {
         SharerHome x = allShare(0, 5);
         x.load(1, 1);
-        String before = shown(x);
+        String before = Scenes.shown(x);
         is("2: load of the line that it waits for", x.load(1, 1), BUSY);
         is("2: load of another line while it waits", x.load(1, 2), BUSY);
         is("2: load of a line that it has while it waits", x.load(1, 0), BUSY);
@@ -197,7 +166,7 @@ public final class PromisesTest {
         x.store(0, 0, 1);
         x.run(64);
         x.load(0, 1);
-        String before = shown(x);
+        String before = Scenes.shown(x);
         is("3: store to a line that it owns while it waits", x.store(0, 0, 2), BUSY);
         is("3: store to the line that it waits for", x.store(0, 1, 2), BUSY);
         is("3: BAD comes before BUSY", x.store(0, -1, 2), BAD);
@@ -278,7 +247,7 @@ public final class PromisesTest {
     private static void leaveIsBusy() {
         SharerHome x = allShare(0, 4);
         x.leave(1, 0);
-        String before = shown(x);
+        String before = Scenes.shown(x);
         is("5: leave in state 11", x.leave(1, 0), BUSY);
         unchanged("5: a leave that is BUSY", x, before);
         x.store(2, 0, 5);
@@ -342,7 +311,7 @@ public final class PromisesTest {
         // DATA to 0, DROP to 1, 2 and 3, LEFT to 2.
         is("6: five wait", x.message(COUNT, 0), 5);
         is("6: the last one is LEFT", x.message(4, 0), 8);
-        String before = shown(x);
+        String before = Scenes.shown(x);
         is("6: LEFT is kept back by DROP", x.deliver(4), 0);
         unchanged("6: a message that is kept back", x, before);
         is("6: DROP to another core is free", x.deliver(3), 2);
@@ -359,7 +328,7 @@ public final class PromisesTest {
         x.load(1, 0);
         x.deliver(1);
         is("6: FORWARD_READ is the second one", x.message(1, 0), 5);
-        String before = shown(x);
+        String before = Scenes.shown(x);
         is("6: it stalls before the data came", x.deliver(1), 1);
         unchanged("6: a message that stalls", x, before);
         is("6: the data came", x.deliver(0), 2);
@@ -442,7 +411,7 @@ public final class PromisesTest {
             is("7: message(-1, " + what + ")", x.message(COUNT, what), 0);
         }
         is("7: message(0, 0) with no message", x.message(0, 0), BAD);
-        share(x, 3, 21);
+        Scenes.share(x, 3, 21, 4);
         x.store(2, 3, 22);
         x.deliver(0);
         is("7: DATA and three DROP", x.message(COUNT, 3), 4);
@@ -735,7 +704,7 @@ public final class PromisesTest {
         is("17: a leave in state 0", x.tally(0, 0), 2);
         is("17: another line", x.tally(0, 1), 0);
         is("17: another core", x.tally(1, 0), 0);
-        share(x, 1, 5);
+        Scenes.share(x, 1, 5, 4);
         is("17: READ, FORWARD_READ, DATA, DATA", x.tally(1, 1), 4);
         is("17: READ, DATA", x.tally(3, 1), 2);
         x.store(3, 1, 6);
@@ -768,7 +737,7 @@ public final class PromisesTest {
         is("18: run(1) with no message", x.run(1), 0);
         x.load(0, 0);
         x.load(1, 1);
-        String before = shown(x);
+        String before = Scenes.shown(x);
         is("18: run(0)", x.run(0), 0);
         is("18: run(-1)", x.run(-1), 0);
         is("18: run(65)", x.run(65), 0);
@@ -832,7 +801,7 @@ public final class PromisesTest {
     private static SharerHome fourLinesBusy() {
         SharerHome x = new SharerHome();
         for (int line = 0; line < 4; line++) {
-            share(x, line, line + 1);
+            Scenes.share(x, line, line + 1, 4);
         }
         for (int core = 0; core < 4; core++) {
             x.store(core, core, 10 + core);
@@ -867,7 +836,7 @@ public final class PromisesTest {
 
     private static void wrongCopies() {
         SharerHome x = allShare(0, 1);
-        String before = shown(x);
+        String before = Scenes.shown(x);
         for (int wrong : WRONG) {
             for (int right = 0; right < 4; right++) {
                 wrongCopy(x, wrong, right);

@@ -1,19 +1,19 @@
 /** Each row of the document's two tables: what a core and what the home does when it takes a message. */
 public final class TablesTest {
 
-    private static final int HOME = 4;
-    private static final int READ = 0;
-    private static final int WRITE = 1;
-    private static final int LEAVE_SHARED = 2;
-    private static final int LEAVE_SOLE = 3;
-    private static final int LEAVE_OWN = 4;
-    private static final int FORWARD_READ = 5;
-    private static final int FORWARD_WRITE = 6;
-    private static final int DROP = 7;
-    private static final int LEFT = 8;
-    private static final int DATA = 9;
-    private static final int SOLE_DATA = 10;
-    private static final int DROPPED = 11;
+    private static final int HOME = Scenes.HOME;
+    private static final int READ = Scenes.READ;
+    private static final int WRITE = Scenes.WRITE;
+    private static final int LEAVE_SHARED = Scenes.LEAVE_SHARED;
+    private static final int LEAVE_SOLE = Scenes.LEAVE_SOLE;
+    private static final int LEAVE_OWN = Scenes.LEAVE_OWN;
+    private static final int FORWARD_READ = Scenes.FORWARD_READ;
+    private static final int FORWARD_WRITE = Scenes.FORWARD_WRITE;
+    private static final int DROP = Scenes.DROP;
+    private static final int LEFT = Scenes.LEFT;
+    private static final int DATA = Scenes.DATA;
+    private static final int SOLE_DATA = Scenes.SOLE_DATA;
+    private static final int DROPPED = Scenes.DROPPED;
 
     private static final int A = 2;
     private static final Check CHECK = new Check("TablesTest");
@@ -27,6 +27,9 @@ public final class TablesTest {
         forwardWriteToOwner(false, true);
         forwardWriteToOwner(true, false);
         forwardWriteToOwner(true, true);
+        for (int owner = 0; owner < 4; owner++) {
+            dataComesFromTheOwner(owner);
+        }
         forwardStallsWhileReading(FORWARD_READ);
         forwardStallsWhileReading(FORWARD_WRITE);
         forwardStallsWhileWriting(FORWARD_READ, true);
@@ -57,24 +60,13 @@ public final class TablesTest {
         CHECK.due(call, got, want);
     }
 
-    /** The oldest waiting message of a kind to a receiver, or how many wait if there is none. */
-    private static int place(SharerHome x, int kind, int receiver) {
-        int count = x.message(-1, 0);
-        for (int k = 0; k < count; k++) {
-            if (x.message(k, 0) == kind && x.message(k, 3) == receiver) {
-                return k;
-            }
-        }
-        return count;
-    }
-
     private static void takes(SharerHome x, int kind, int receiver) {
-        is(receiver + " takes kind " + kind, x.deliver(place(x, kind, receiver)), 2);
+        is(receiver + " takes kind " + kind, x.deliver(Scenes.place(x, kind, receiver)), 2);
     }
 
     private static void stalls(SharerHome x, int kind, int receiver) {
         int before = x.message(-1, 0);
-        is(receiver + " stalls with kind " + kind, x.deliver(place(x, kind, receiver)), 1);
+        is(receiver + " stalls with kind " + kind, x.deliver(Scenes.place(x, kind, receiver)), 1);
         is("it stays", x.message(-1, 0), before);
     }
 
@@ -159,6 +151,24 @@ public final class TablesTest {
         is("state at the end", x.state(0, A), 0);
         is("home at the end", x.home(A), 2 + 4 * 2);
         is("memory is as it was", x.memory(A), 5);
+    }
+
+    private static void dataComesFromTheOwner(int owner) {
+        int writer = (owner + 1) % 4;
+        int reader = (owner + 2) % 4;
+        SharerHome x = new SharerHome();
+        x.store(owner, A, 6);
+        x.run(64);
+        x.store(writer, A, 7);
+        takes(x, WRITE, HOME);
+        takes(x, FORWARD_WRITE, owner);
+        sent(x, 0, DATA, owner, writer, writer, 0, 6);
+        takes(x, DATA, writer);
+        x.load(reader, A);
+        takes(x, READ, HOME);
+        takes(x, FORWARD_READ, writer);
+        sent(x, 0, DATA, writer, reader, reader, 0, 7);
+        sent(x, 1, DATA, writer, HOME, reader, 0, 7);
     }
 
     private static void request(SharerHome x, int kind, int core) {
@@ -432,7 +442,7 @@ public final class TablesTest {
         takes(x, LEAVE_OWN, HOME);
         is("not the owner: memory stays", x.memory(A), 5);
         is("not the owner: keeping stays", x.home(A), 2 + 4 * 2);
-        is("LEFT is kept back", x.deliver(place(x, LEFT, 0)), 0);
+        is("LEFT is kept back", x.deliver(Scenes.place(x, LEFT, 0)), 0);
         takes(x, FORWARD_WRITE, 0);
         takes(x, LEFT, 0);
         is("state 0", x.state(0, A), 0);
