@@ -22,6 +22,7 @@ public final class FaceTest {
     public static void main(String[] args) {
         int classModifiers = SharerHome.class.getModifiers();
         CHECK.due("the class is public and final", Modifier.isPublic(classModifiers) && Modifier.isFinal(classModifiers), true);
+        CHECK.due("the class stands on nothing else", SharerHome.class.getSuperclass() == Object.class && SharerHome.class.getInterfaces().length == 0, true);
         CHECK.due("BAD", SharerHome.BAD, -1);
         CHECK.due("BUSY", SharerHome.BUSY, -2);
         comparesSeenMembers();
@@ -34,6 +35,7 @@ public final class FaceTest {
         Set<String> seen = new TreeSet<>();
         for (Field field : SharerHome.class.getDeclaredFields()) {
             if (isSeen(field)) {
+                CHECK.due(field + " is a constant", Modifier.isStatic(field.getModifiers()) && Modifier.isFinal(field.getModifiers()), true);
                 seen.add(field.getType().getName() + " " + field.getName());
             }
         }
@@ -44,6 +46,7 @@ public final class FaceTest {
         }
         for (Method method : SharerHome.class.getDeclaredMethods()) {
             if (isSeen(method)) {
+                CHECK.due(method + " is of an object and throws nothing", !Modifier.isStatic(method.getModifiers()) && method.getExceptionTypes().length == 0, true);
                 seen.add(method.getReturnType().getName() + " " + method.getName() + typesOf(method.getParameterTypes()));
             }
         }
@@ -91,6 +94,12 @@ public final class FaceTest {
     }
 
     private static void looksAtFields() {
+        for (Class<?> inside : SharerHome.class.getDeclaredClasses()) {
+            for (Field field : inside.getDeclaredFields()) {
+                boolean isFixed = !Modifier.isStatic(field.getModifiers()) || Modifier.isFinal(field.getModifiers());
+                CHECK.due(field + " is final if it is static", isFixed, true);
+            }
+        }
         for (Field field : SharerHome.class.getDeclaredFields()) {
             CHECK.due(field + " is final", Modifier.isFinal(field.getModifiers()), true);
         }

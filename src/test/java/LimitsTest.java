@@ -29,6 +29,7 @@ public final class LimitsTest {
         lastCallOf512AfterRefusedOnes();
         linesGoRoundFor512Calls();
         mostMessagesIn512Calls();
+        laterCallsEnd();
         CHECK.end();
     }
 
@@ -247,5 +248,24 @@ public final class LimitsTest {
             }
             calls += 4 + 16 + 4 + 1 + 1 + 4;
         }
+    }
+
+    /** What calls after the 512th answer is free, but none may throw; a throw ends this test with another exit code. */
+    private static void laterCallsEnd() {
+        SharerHome x = new SharerHome();
+        for (int call = 0; call < 40 * CALLS; call++) {
+            int core = call % 5;
+            int line = call / 5 % 5;
+            x.store(core, line, call);
+            x.leave(line, core);
+            x.deliver(call % 31);
+            x.add(line, core, call);
+            x.load(core, core);
+            x.deliver(call % 29);
+            x.run(call % 67);
+            x.message(call % 37, call % 7);
+            x.carried(call % 37);
+        }
+        Scenes.shown(x);
     }
 }
